@@ -793,7 +793,7 @@ public final class YesterStreet {
             int possible = set & ~stopped;
             int holding = holding(set);
             int begun = 0;
-            // each time but the last some NOTE more HAS A BEGINNING
+            // so often is enough: a time that finds no NOTE more is the last of use
             for (int i = 0; i < MOST_NOTES; i++) {
                 for (int k = 0; k < rules; k++) {
                     if (bitOf(holding, k) == 1 && (needs[k] & ~begun) == 0) {
