@@ -190,6 +190,8 @@ public final class EdgeDaysTest {
         t.due("begins(0)", x.begins(0), 0);
         x.stop(5, true);
         t.due("begins(63), the first STOPPED", x.begins(63), 0);
+        x = t.told("street6 1;rule0 0 1;rule0 1 2;rule0 2 3;rule0 3 4;rule0 4 5;rule0 5;");
+        t.due("begins(63), the longest chain, told from its end", x.begins(63), 63);
     }
 
     private static void pure() {
@@ -208,6 +210,9 @@ public final class EdgeDaysTest {
         t.due("pure(0): a set AGREES, none is PURE", x.pure(0), 0);
         t.due("pure(1): a set AGREES, none is PURE", x.pure(1), NONE);
         t.due("days(1)", x.days(1), 1);
+        x = t.told(EVERY);
+        t.due("pure(0): all AGREE, {} alone is PURE", x.pure(0), 1);
+        t.due("pure(1): all AGREE, {} alone is PURE", x.pure(1), 0);
         // three pairs, of each one or the other: 8 sets AGREE, all by nothing that is there
         x = t.told("street6 1;rule0 0not1;rule0 1not0;rule0 2not3;rule0 3not2;rule0 4not5;rule0 5not4;");
         t.due("pure(0), the most", x.pure(0), 8);
@@ -245,7 +250,9 @@ public final class EdgeDaysTest {
         YesterStreet x = t.told("street6 4;rule0 5;rule1 5 5;rule2 5 5;rule3 5;");
         t.due("could(5), all", x.could(5), 15);
         t.due("could(4)", x.could(4), 0);
-        t.due("could(0) by the greatest set", t.told(EVERY).could(5), 1);
+        t.due("could(5), all AGREE", t.told(EVERY).could(5), 1);
+        t.due("could(0) in the greatest set alone", t.told("street1 2;rule1 0;").could(0), 2);
+        t.due("could(0) in the empty set alone", t.told("street1 2;stop0;rule1 0;").could(0), 2);
     }
 
     // ---- promises 26, 27

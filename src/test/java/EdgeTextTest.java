@@ -93,6 +93,7 @@ public final class EdgeTextTest {
         t.due("end(13)", x.end(13), 14);
         t.due("end(14) behind it", x.end(14), BAD);
         t.due("text() without the last byte", x.text(), -10 - 13);
+        goneBytes();
         Twins.put(x, "stop 1;stop 2;");
         t.due("end(0)", x.end(0), 14);
         t.due("text() of nothing", x.text(), 0);
@@ -103,6 +104,30 @@ public final class EdgeTextTest {
         t.due("text() of what was kept and what came", x.text(), 2);
         t.due("STOPPED", x.rule(4), 2);
         t.due("HOME", x.rule(3), 2);
+    }
+
+    /** What end() took away is not read any more, though a TOKEN could go on into it. */
+    private static void goneBytes() {
+        YesterStreet x = new YesterStreet();
+        String[] whole = {"stop 12;", "stop 1;", "stops", "stop    1;", "rule 0 0 not 1;"};
+        int[] keeps = {6, 6, 4, 6, 12};
+        for (int i = 0; i < whole.length; i++) {
+            Twins.put(x, whole[i]);
+            t.due("end of '" + whole[i] + "'", x.end(keeps[i]), whole[i].length());
+            t.due("text() of what is left of '" + whole[i] + "'", x.text(), -10 - keeps[i]);
+            t.due("fault()", x.fault(), 2);
+        }
+        Twins.put(x, "stop 1;stop 2;");
+        x.text();
+        Twins.put(x, "home 1;");
+        t.due("text() shorter than the one before", x.text(), 1);
+        String[] tails = {"7", "z", " ", ";"};
+        for (int i = 0; i < tails.length; i++) {
+            x = new YesterStreet();
+            Twins.put(x, "stop " + tails[i].repeat(155));
+            t.due("text() of 160, '" + tails[i] + "' to the end", x.text(), -10 - (i == 2 ? 160 : 5));
+            t.due("fault()", x.fault(), i == 0 ? 1 : 2);
+        }
     }
 
     // ---- promise 4
@@ -163,6 +188,10 @@ public final class EdgeTextTest {
         refused(LONGEST.substring(0, 159) + "?", 1, 159);
         refused(LONGEST.substring(0, 159) + " ", 2, 160);
         refused(LONGEST.substring(0, 159) + "x", 2, 159);
+        refused(LONGEST.substring(0, 159) + "6", 3, 158);
+        refused(" ".repeat(159) + "1", 2, 159);
+        refused(" ".repeat(158) + "11", 2, 158);
+        refused(" ".repeat(157) + "111", 1, 157);
         refused(";", 2, 0);
         refused("s", 2, 0);
         refused("stop", 2, 4);

@@ -17,6 +17,7 @@ public final class TermsTest {
         notToldAlready();
         theNinthRule();
         notesThatThereAreNot();
+        oneOfSeveralNotes();
         onesThatThereAreNot();
         theFirstMet();
         holds();
@@ -187,6 +188,11 @@ public final class TermsTest {
         for (String name : names) text("rule 0 0 not 1 " + name + " 2;", 2, 15);
         text("rule 0 0 not 1 2;", TAKEN, 1);
         text("rule 0 0 not 1;", TAKEN, 1);
+        // each letter of a NAME counts
+        for (String name : new String[] {"street", "rule", "worth", "debt", "home", "stop", "today"}) {
+            for (int i = 0; i < name.length(); i++) text(name.substring(0, i) + "z" + name.substring(i + 1) + " 0 0;", 2, 0);
+        }
+        for (String name : new String[] {"zot", "nzt", "noz", "no", "nott"}) text("rule 0 0 " + name + " 1;", 2, 9);
         // where a line begins
         for (String name : new String[] {"x", "not", "stops", "sto", "rules", "rul", "streets", "stree", "worths", "debts", "homes", "todays"}) {
             text(name + " 0 0;", 2, 0);
@@ -235,6 +241,9 @@ public final class TermsTest {
             text("today " + n + ";today " + n + ";", 4, 14);
         }
         for (int p = 0; p < 2; p++) text("home " + p + ";home " + p + ";", 4, 12);
+        text("worth 1 2;worth 0 2;debt 1 2;", 4, 25);
+        text("debt 0 2;worth 1 2;worth 2 2;worth 0 2;", 4, 35);
+        text("today 0;today 1;today 2;today 0;", 4, 30);
         text("rule 0 0 0 1 2 0;", 4, 15);
         text("rule 0 0 0 1 not 2 1;", 4, 19);
         text("stop 0;stop 1;stop 2;stop 0;", 4, 26);
@@ -299,6 +308,15 @@ public final class TermsTest {
         }
     }
 
+    private static void oneOfSeveralNotes() {
+        text("stop 3;stop 0;", 6, 14);
+        text("stop 0;stop 3;", 6, 14);
+        text("rule 0 0 3 1;", 6, 13);
+        text("rule 0 0 1 not 3 2;", 6, 19);
+        text("rule 0 3 1 not 2;", 6, 17);
+        text("worth 5 0;today 0;rule 1 1 1;", 6, 29);
+    }
+
     private static void onesThatThereAreNot() {
         for (int people = 1; people <= 4; people++) {
             for (int p = 0; p < 4; p++) {
@@ -316,6 +334,8 @@ public final class TermsTest {
                 text(line, p < 2 ? TAKEN : 7, p < 2 ? 1 : line.length());
             }
         }
+        text("home 2;home 0;", 7, 14);
+        text("home 3;rule 0 0;rule 1 1;", 7, 25);
         text("home 3;stop 5;", 6, 14);
         text("rule 3 5;", 6, 9);
         text("rule 3 0;street 3 4;", TAKEN, 2);
