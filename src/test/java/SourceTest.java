@@ -37,7 +37,7 @@ public final class SourceTest {
     }
 
     private static void methods(String bare) {
-        Matcher m = Pattern.compile("\n {4,8}(?!\\s)(?!private static final class)[\\w\\[\\] ]+\\(([^()]*)\\) \\{\n").matcher(bare);
+        Matcher m = Pattern.compile("\n {4,8}(?!\\s)(?!(?:for|while|if|switch) \\()(?!private static final class)[\\w\\[\\] ]+\\(([^()]*)\\) \\{\n").matcher(bare);
         int found = 0;
         while (m.find()) {
             found++;
@@ -49,6 +49,9 @@ public final class SourceTest {
                 lines += c == '\n' ? 1 : 0;
             }
             check(lines <= 60, lines + " lines:" + m.group());
+            // what a run makes is counted, so rows are made in constructors and used again
+            boolean maker = m.group().trim().matches("(public )?[A-Z]\\w*\\(.*");
+            check(maker || !bare.substring(m.end(), at).matches("(?s).*\\bnew\\b.*"), "makes an object:" + m.group());
         }
         check(found > 60, "only " + found + " methods were found");
     }
